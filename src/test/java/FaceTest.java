@@ -92,7 +92,19 @@ public final class FaceTest {
             CHECK.holds(one + " is not public or protected",
                     (one.getModifiers() & (Modifier.PUBLIC | Modifier.PROTECTED)) == 0);
             shape(one);
+            for (Method method : one.getDeclaredMethods()) {
+                CHECK.holds(method + " bears no name of the face", !isOfFace(method.getName()));
+            }
         }
+    }
+
+    private static boolean isOfFace(String name) {
+        for (String method : METHODS) {
+            if (method.startsWith("int " + name + "(")) {
+                return true;
+            }
+        }
+        return false;
     }
 
     private static void shape(Class<?> one) {
