@@ -117,7 +117,7 @@ public final class BoundsTest {
         busy("open 1", (x, v) -> x.open(2, v, 2), 0, 51, 1, 0, BAD, BAD);
         busy("open 2", (x, v) -> x.open(2, 25, v), 0, 3, 1, 0, BAD, BAD);
         bound("open 2, of no entries", () -> Scenes.pool(9, 1), (x, v) -> x.open(0, 0, v), 0, 0, 1, 1, BAD, BAD);
-        bound("open 2, of 100 entries", Scenes::full, (x, v) -> x.open(1, 51, v), 0, 100, 1, 1, BAD, BAD);
+        bound("open 2, of 100 entries", Scenes::full, (x, v) -> x.open(1, 51, v), 0, 100, 1, 0, BAD, BAD);
         CHECK.section("promise 11");
         busy("quota 0", (x, v) -> x.quota(v, 7, 3), 0, 2, 260, 200, NO_QUOTA, NO_QUOTA);
         busy("quota 1", (x, v) -> x.quota(0, v, 3), 0, 51, 300, 260, NO_QUOTA, NO_QUOTA);

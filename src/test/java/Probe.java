@@ -56,6 +56,10 @@ final class Probe {
                 told("laid(" + ship + ", " + what + ")", x.laid(ship, what));
             }
         }
+        told("lay of all", x.lay((1 << ships) - 1));
+        for (int ship = 0; ship < ships; ship++) {
+            told("the end of " + ship + " then", x.laid(ship, 2));
+        }
     }
 
     private void sea() {

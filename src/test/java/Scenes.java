@@ -52,7 +52,7 @@ final class Scenes {
         }
         for (int entry = 0; entry < 50; entry++) {
             x.lend(entry % 8, (entry + 1) % 8, 1 + entry);
-            x.shut(entry % 8, entry % 3 == 0, entry + 1);
+            x.shut(entry % 8, entry % 3 == 0 || entry == 49, entry + 1);
         }
         x.weeks(51);
         for (int ship = 0; ship < 6; ship++) {
